@@ -1,0 +1,64 @@
+/** Counts the answers that are not as due; a test ends with finish(). */
+final class Checks {
+    interface Call {
+        void make();
+    }
+
+    private static final int MOST_TOLD = 30;
+    private static int wrong = 0;
+    private static int made = 0;
+
+    private Checks() {
+    }
+
+    static void due(String what, long want, long got) {
+        made++;
+        if (want != got) {
+            tell(what + ": answered " + got + ", due is " + want);
+        }
+    }
+
+    static void due(String what, boolean want, boolean got) {
+        due(what, want ? 1 : 0, got ? 1 : 0);
+    }
+
+    static void range(String what, Call call) {
+        throwing(what, IllegalArgumentException.class, call);
+    }
+
+    static void state(String what, Call call) {
+        throwing(what, IllegalStateException.class, call);
+    }
+
+    static void index(String what, Call call) {
+        throwing(what, IndexOutOfBoundsException.class, call);
+    }
+
+    /** The class itself, as the machine's own exceptions are classes below the named ones. */
+    private static void throwing(String what, Class<? extends RuntimeException> want, Call call) {
+        made++;
+        String got = "nothing";
+        try {
+            call.make();
+        } catch (RuntimeException e) {
+            got = e.getClass().getName();
+        }
+        if (!got.equals(want.getName())) {
+            tell(what + ": threw " + got + ", due is " + want.getName());
+        }
+    }
+
+    private static void tell(String fault) {
+        wrong++;
+        if (wrong <= MOST_TOLD) {
+            System.out.println(fault);
+        }
+    }
+
+    static void finish() {
+        System.out.println(made + " checks, " + wrong + " wrong");
+        if (wrong != 0) {
+            System.exit(1);
+        }
+    }
+}
