@@ -756,7 +756,7 @@ public final class Hymnwright {
             return n + 7 - (d + n) % 7;
         }
 
-        /** The anonymous way of 1876, which needs no golden number, no epact and no exception for 24 and 25. */
+        /** The anonymous way of 1876: 100 times the month, and the day, by rests alone, with nothing excepted. */
         private static int easterByRests(int year) {
             int a = year % 19;
             int b = year / 100;

@@ -34,14 +34,16 @@ final class Checks {
         throwing(what, IndexOutOfBoundsException.class, call);
     }
 
-    /** The class itself, as the machine's own exceptions are classes below the named ones. */
+    /** The class itself, thrown by Hymnwright itself: the machine and the library are not to throw in it. */
     private static void throwing(String what, Class<? extends RuntimeException> want, Call call) {
         made++;
         String got = "nothing";
         try {
             call.make();
         } catch (RuntimeException e) {
-            got = e.getClass().getName();
+            StackTraceElement[] trace = e.getStackTrace();
+            boolean isItsOwn = trace.length > 0 && trace[0].getClassName().startsWith("Hymnwright");
+            got = e.getClass().getName() + (isItsOwn ? "" : " of another's throw");
         }
         if (!got.equals(want.getName())) {
             tell(what + ": threw " + got + ", due is " + want.getName());
