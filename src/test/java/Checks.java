@@ -23,19 +23,19 @@ final class Checks {
     }
 
     static void range(String what, Call call) {
-        throwing(what, IllegalArgumentException.class, call);
+        refused(what, IllegalArgumentException.class, call);
     }
 
     static void state(String what, Call call) {
-        throwing(what, IllegalStateException.class, call);
+        refused(what, IllegalStateException.class, call);
     }
 
     static void index(String what, Call call) {
-        throwing(what, IndexOutOfBoundsException.class, call);
+        refused(what, IndexOutOfBoundsException.class, call);
     }
 
     /** The class itself, thrown by Hymnwright itself: the machine and the library are not to throw in it. */
-    private static void throwing(String what, Class<? extends RuntimeException> want, Call call) {
+    static void refused(String what, Class<? extends RuntimeException> want, Call call) {
         made++;
         String got = "nothing";
         try {

@@ -40,8 +40,9 @@ final class YearsAndFeastsTest {
         }
         for (int year = 1600; year <= 2399; year++) {
             int want = easterByTheMoon(year);
-            Checks.due("14 easter " + year, want, x.easter(year));
-            Checks.due("15 easterAnew " + year, want, x.easterAnew(year));
+            Hymnwright y = new Hymnwright();
+            Checks.due("14 easter " + year, want, y.easter(year));
+            Checks.due("15 easterAnew " + year, want, y.easterAnew(year));
         }
         for (int year : new int[] {1599, 2400, 0, -1, MIN, MAX}) {
             Checks.range("14 year " + year, () -> x.easter(year));
@@ -75,16 +76,17 @@ final class YearsAndFeastsTest {
         Checks.due("16 the first day", 6, x.weekday(1600, 1, 1));
         Checks.due("16 the last day", 5, x.weekday(2399, 12, 31));
         for (int year : new int[] {1600, 1601, 1604, 1699, 1700, 1701, 1800, 1900, 1999, 2000, 2001, 2023, 2100, 2399}) {
+            Hymnwright y = new Hymnwright();
             LocalDate day = LocalDate.of(year, 1, 1);
             while (day.getYear() == year) {
                 Checks.due("16 " + day, day.getDayOfWeek().getValue() % 7,
-                        x.weekday(year, day.getMonthValue(), day.getDayOfMonth()));
+                        y.weekday(year, day.getMonthValue(), day.getDayOfMonth()));
                 day = day.plusDays(1);
             }
         }
         for (int year = 1600; year <= 2399; year++) {
             Checks.due("16 March 1, " + year, LocalDate.of(year, 3, 1).getDayOfWeek().getValue() % 7,
-                    x.weekday(year, 3, 1));
+                    new Hymnwright().weekday(year, 3, 1));
         }
         for (int[] day : NO_DAYS) {
             Checks.range("16 " + name(day), () -> x.weekday(day[0], day[1], day[2]));
