@@ -273,8 +273,9 @@ final class ServicesEdgesTest {
     private static void latelyByDays() {
         LocalDate[] days = {LocalDate.of(2023, 5, 1), LocalDate.of(2023, 2, 1), LocalDate.of(2024, 2, 1),
             LocalDate.of(2024, 1, 31), LocalDate.of(1700, 2, 1), LocalDate.of(1900, 2, 20), LocalDate.of(2000, 2, 20),
-            LocalDate.of(2023, 12, 3), LocalDate.of(2023, 12, 4), LocalDate.of(2024, 12, 15), LocalDate.of(1999, 12, 31),
-            LocalDate.of(1600, 2, 10), LocalDate.of(1600, 12, 31), LocalDate.of(2399, 12, 2), LocalDate.of(2024, 2, 29)};
+            LocalDate.of(2023, 12, 3), LocalDate.of(2023, 12, 4), LocalDate.of(2024, 12, 15),
+            LocalDate.of(1999, 12, 31), LocalDate.of(1600, 2, 10), LocalDate.of(1600, 12, 31),
+            LocalDate.of(2399, 12, 2), LocalDate.of(2024, 2, 29)};
         for (LocalDate day : days) {
             Hymnwright x = new Hymnwright();
             addText(x, 1500, 1, 0);
@@ -316,7 +317,8 @@ final class ServicesEdgesTest {
             for (int text = 0; text < 3; text++) {
                 int since = week - text;
                 boolean isLately = since >= 0 && since <= 4 || since >= 5 && since <= 9;
-                Checks.due("25 text " + text + " in week " + week, isLately ? 4 : 0, why(x, text, first.plusWeeks(week)));
+                LocalDate asked = first.plusWeeks(week);
+                Checks.due("25 text " + text + " in week " + week, isLately ? 4 : 0, why(x, text, asked));
             }
         }
     }
