@@ -32,9 +32,9 @@ final class RefusedCallsTest {
     private static final int[] WHATS = {-1, 5, MIN, MAX};
     private static final int[][] NO_DAYS = noDays();
 
-    private final Made none = new Made("new");
-    private final Made some = some();
-    private final Made full = full();
+    private final Made none = Made.none();
+    private final Made some = Made.some();
+    private final Made full = Made.full();
 
     public static void main(String[] args) {
         RefusedCallsTest test = new RefusedCallsTest();
@@ -60,42 +60,6 @@ final class RefusedCallsTest {
         test.services();
         test.servicesToldOf();
         Checks.finish();
-    }
-
-    /** Three texts, tunes and feasts, two services; the text 1 and the tune 2 have as many lines as there may be. */
-    private static Made some() {
-        Made made = new Made("some").then("text", 1700, 1).then("text", 1700, 2).then("text", 1950, 2)
-                .then("tune", 1700, 0, 40).then("tune", 1700, 5, 17).then("tune", 2000, 20, 20);
-        for (int i = 0; i < 8; i++) {
-            made.then("line", 1, 4, i).then("phrase", 2, 4, 5);
-        }
-        made.then("line", 2, 4, 15).then("phrase", 1, 4, 7).then("allowText", 1, 1).then("allowTune", 2, 1);
-        made.then("feast", 9, 0, 3, 1).then("moving", 9, 1, 1).then("feast", 7, 1, 12, 31).then("sundays", 5);
-        made.then("reading", SUNDAY, 1, 1).then("reading", SUNDAY, 2, 1).then("reading", 0, 1, 7);
-        return made.then("sing", 2023, 1, 15).then("sing", 2023, 1, 22);
-    }
-
-    /** Twelve texts and tunes of eight rows, twenty feasts, sixty services: on each Sunday up to February 18, 2024. */
-    private static Made full() {
-        Made made = new Made("full").then("sundays", 9);
-        for (int i = 0; i < 12; i++) {
-            made.then("text", 1600 + i, 3).then("tune", 1600 + i, i, i + 20);
-            for (int row = 0; row < 8; row++) {
-                made.then("line", i, 4, (i + row) % 16).then("phrase", i, 4, i * row % 16);
-            }
-        }
-        for (int i = 0; i < 10; i++) {
-            made.then("feast", 1 + i % 9, i % 2, 1 + i, 7).then("moving", 9 - i % 9, i % 2, i * 5);
-        }
-        for (int cycle = 0; cycle <= 2; cycle++) {
-            made.then("reading", SUNDAY, cycle, 1).then("reading", 1, cycle, 1);
-        }
-        LocalDate sunday = LocalDate.of(2023, 1, 1);
-        for (int i = 0; i < 60; i++) {
-            LocalDate day = sunday.plusWeeks(i);
-            made.then("sing", day.getYear(), day.getMonthValue(), day.getDayOfMonth());
-        }
-        return made;
     }
 
     private static int[][] noDays() {

@@ -18,6 +18,7 @@ final class ServicesEdgesTest {
         rights(true);
         rights(false);
         anyTuneThatFitsAndIsFree();
+        tunesThatAreSungTwice();
         firstOfTheReasons();
         latelyByDays();
         latelyOfAnyService();
@@ -36,6 +37,7 @@ final class ServicesEdgesTest {
         sixtyServices();
         firstAndLastDays();
         clashesAsTheyAreNow();
+        clashesBehindTheRights();
         tuneAsItWasChosen();
         sungNoneToSixty();
         theLastCallThatIsPromised();
@@ -246,6 +248,40 @@ final class ServicesEdgesTest {
         y.tune(1500, 0, 0);
         Checks.due("25 no line and no phrase", 3, y.why(0, 2023, 1, 1));
         Checks.state("26 no line and no phrase", () -> y.sing(2023, 1, 1));
+    }
+
+    /** "those that fit it", once or twice alike: for reason 3, for the hymn, and for its tune. */
+    private static void tunesThatAreSungTwice() {
+        Hymnwright x = withSundays();
+        addText(x, 1500, 1, 0b0011);
+        x.line(0, 12, 0b0011);
+        addTune(x, 2399, 0b0011);
+        Checks.due("25 the tune that fits twice is not FREE", 3, x.why(0, 2023, 1, 1));
+        addTune(x, 1500, 0b0001);
+        Checks.due("25 a tune that fits twice is FREE", 0, x.why(0, 2023, 1, 1));
+        addText(x, 1500, 1, 0b1110);
+        Checks.due("26 two clashes in two lines, ahead of four in one", 0, x.sing(2023, 1, 1));
+        Checks.due("27 the tune that is sung twice", 1, x.service(0, 1));
+        Checks.due("27 the clashes of both halves", 2, x.service(0, 4));
+        Checks.due("26 four clashes in one line", 1, x.sing(2023, 1, 8));
+        addTune(x, 1500, 0b0011);
+        x.phrase(2, 12, 0);
+        x.sing(2023, 2, 5);
+        Checks.due("27 twice and once with two clashes: the lowest number", 1, x.service(2, 1));
+        x.tune(1500, 0, 10);
+        x.phrase(3, 12, 0b0011);
+        x.phrase(3, 12, 0b0001);
+        x.sing(2024, 1, 7);
+        Checks.due("27 once with one clash, ahead of twice with two", 3, x.service(3, 1));
+        x.allowTune(0, true);
+        x.sing(2024, 2, 11);
+        Checks.due("27 twice with none, ahead of once with one", 0, x.service(4, 1));
+        Hymnwright y = withSundays();
+        addText(y, 1500, 1, 0b0001);
+        y.line(0, 12, 0b0001);
+        addText(y, 1500, 1, 0b0001);
+        addTune(y, 1500, 0);
+        Checks.due("26 one clash in one line, ahead of two in two", 1, y.sing(2023, 1, 1));
     }
 
     /** "for the first of these reasons that is so": of all those from it on, and of it alone. */
@@ -616,6 +652,24 @@ final class ServicesEdgesTest {
         Checks.due("27 its year still", 2023, y.service(0, 2));
         Checks.due("27 its day still", 101, y.service(0, 3));
         Checks.due("28 its service still", 1, y.sung(0));
+    }
+
+    /** "NONE if that tune does not fit any more", whoever may sing it: rights that end do not count. */
+    private static void clashesBehindTheRights() {
+        Hymnwright x = withSundays();
+        addText(x, 2399, 1, 0b111);
+        addTune(x, 2399, 0);
+        x.allowText(0, true);
+        x.allowTune(0, true);
+        x.sing(2023, 1, 1);
+        x.allowText(0, false);
+        Checks.due("27 its clashes, the text not allowed any more", 3, x.service(0, 4));
+        x.allowTune(0, false);
+        Checks.due("27 its clashes, the tune not allowed any more", 3, x.service(0, 4));
+        Checks.due("27 its tune, not allowed any more", 0, x.service(0, 1));
+        Checks.due("28 its service, not allowed any more", 1, x.sung(0));
+        x.line(0, 12, 0b111);
+        Checks.due("27 its clashes, sung twice by now", 6, x.service(0, 4));
     }
 
     /** "0 its text, 1 its tune, both as they were chosen". */

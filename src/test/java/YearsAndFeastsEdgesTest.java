@@ -24,11 +24,14 @@ final class YearsAndFeastsEdgesTest {
         twentyFeasts();
         sundayRanks();
         sundaysAtFirst();
+        everySundayOfAYear();
         ranksOneToNine();
         numbersOfOneRank();
         numbersAheadOfOwnDays();
         notPutOff();
         putOffByOneToTwentyThree();
+        putOffFromEaster();
+        putOffOntoEaster();
         putOffFromTheLastDays();
         putOffNotAhead();
         firstAndLastDays();
@@ -287,6 +290,21 @@ final class YearsAndFeastsEdgesTest {
         Checks.due("19 0 again", 0, x.sundays(0));
     }
 
+    /** "if it is a Sunday, the feast's rank is that of Sundays at least": whichever Sunday it is. */
+    private static void everySundayOfAYear() {
+        for (LocalDate day = LocalDate.of(2023, 1, 1); day.getYear() == 2023; day = day.plusWeeks(1)) {
+            for (int rank = 1; rank <= 8; rank++) {
+                Hymnwright x = new Hymnwright();
+                x.feast(rank, false, day.getMonthValue(), day.getDayOfMonth());
+                x.sundays(rank);
+                both("the Sunday " + day + " of rank " + rank, monthAndDay(day), x, 0, 2023);
+                x.sundays(rank + 1);
+                both("the Sunday " + day + " above rank " + rank, NONE, x, 0, 2023);
+                Checks.due("21 the Sunday " + day + " above rank " + rank, SUNDAY, kept(x, day));
+            }
+        }
+    }
+
     /** "those of greater ranks first": by one, whichever was told first. */
     private static void ranksOneToNine() {
         for (int rank = 1; rank < 9; rank++) {
@@ -394,6 +412,45 @@ final class YearsAndFeastsEdgesTest {
         both("on the leap day", 229, y, 9, 2024);
         both("without a leap day", 311, y, 19, 2023);
         both("behind the February 28", 301, y, 9, 2023);
+    }
+
+    /** Twenty that move, from Easter, and from days ahead of it and behind it: as far as fixed ones reach. */
+    private static void putOffFromEaster() {
+        for (int days : new int[] {-60, -1, 0, 1, 60}) {
+            Hymnwright x = new Hymnwright();
+            x.sundays(6);
+            for (int i = 0; i < 20; i++) {
+                x.moving(5, true, days);
+            }
+            for (int year : new int[] {1818, 2008, 2024, 2038}) {
+                int easter = x.easter(year);
+                LocalDate due = LocalDate.of(year, easter / 100, easter % 100).plusDays(days);
+                for (int i = 0; i < 20; i++) {
+                    due = due.getDayOfWeek().getValue() == 7 ? due.plusDays(1) : due;
+                    Checks.due("22 feast " + i + " from " + days + " in " + year, monthAndDay(due), x.when(i, year));
+                    Checks.due("21 feast " + i + " from " + days + " in " + year, i, kept(x, due));
+                    due = due.plusDays(1);
+                }
+            }
+        }
+    }
+
+    /** Easter is a Sunday as others are: for a feast that is put off, fixed or moving, it is open or not by ranks. */
+    private static void putOffOntoEaster() {
+        for (int sundays = 4; sundays <= 5; sundays++) {
+            Hymnwright x = new Hymnwright();
+            x.sundays(sundays);
+            x.feast(9, false, 3, 30);
+            x.feast(4, true, 3, 30);
+            both("a fixed one put off from the day ahead of Easter", sundays == 4 ? 331 : 401, x, 1, 2024);
+            x.moving(5, true, -1);
+            both("a moving one put off from the day ahead of Easter", 331, x, 2, 2024);
+            both("the fixed one behind it", 401, x, 1, 2024);
+            x.moving(9, false, 0);
+            both("Easter is taken", 401, x, 2, 2024);
+            both("Easter and the day behind are taken", 402, x, 1, 2024);
+            Checks.due("21 Easter", 3, x.kept(2024, 3, 31));
+        }
     }
 
     /** "that are in the same year": of twenty from each of the last days, as many are kept as are left. */
